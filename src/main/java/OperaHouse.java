@@ -622,27 +622,24 @@ public final class OperaHouse {
             advance();
             int rules = 0;
             // One RULE more than can hold is read, for its FAULT.
-            while (token != Token.FINISH && faultKind == 0 && rules <= MOST_RULES) {
-                rule();
+            boolean good = true;
+            while (good && token != Token.FINISH && rules <= MOST_RULES) {
+                if (token.sort == LIMIT) {
+                    good = limit(token.code);
+                } else if (token == Token.LEAVE) {
+                    good = leave();
+                } else {
+                    good = token == Token.FEE ? payment() : blame(FAULT_TOKEN);
+                }
                 rules++;
             }
-            return faultKind == 0 ? rules : -1 - place;
+            return good ? rules : -1 - place;
         }
 
         /** A FAULT at the TOKEN that is read; nothing is read behind it. */
         private boolean blame(int kind) {
             faultKind = kind;
             return false;
-        }
-
-        private boolean rule() {
-            if (token.sort == LIMIT) {
-                return limit(token.code);
-            }
-            if (token == Token.LEAVE) {
-                return leave();
-            }
-            return token == Token.FEE ? payment() : blame(FAULT_TOKEN);
         }
 
         private boolean limit(int k) {
@@ -1723,6 +1720,7 @@ public final class OperaHouse {
                 } else {
                     tries++;
                     placeNight(placed);
+                    judge.run();
                     if (holds(before)) {
                         placed++;
                         startBehind(placed);
@@ -1785,8 +1783,8 @@ public final class OperaHouse {
             }
         }
 
+        /** Whether the judge found nothing WRONG of the NIGHTS, and nothing more of what was there before. */
         private boolean holds(int before) {
-            judge.run();
             for (int c = 0; c < calls.number; c++) {
                 if ((judge.bits[c] & ~(c < before ? callBits[c] : 0)) != 0) {
                     return false;
