@@ -89,6 +89,29 @@ public final class ContractTest {
         bad("rest 1{;", 6, 1);
         bad("rest 1/;", 6, 1);
         bad("rest 1:;", 6, 1);
+        bad("restz 1;", 0, 1);
+        bad("zrest 1;", 0, 1);
+        bad("rest 1z;", 5, 1);
+        bad("rest 9a;", 5, 1);
+        bad("fee 1 if nthz=1;", 9, 1);
+        bad("fee 1 if nth=9z;", 13, 1);
+        behindTheEnd();
+    }
+
+    /** Bytes that the tape had once are no more of the text. */
+    private static void behindTheEnd() {
+        Check.write(x, "fee 12345;rest 10;");
+        x.end(3);
+        Check.same("a word at the end", x.contract(0), -4);
+        Check.write(x, "fee 12345;rest 10;");
+        x.end(6);
+        Check.same("a number at the end", x.contract(0), -7);
+        Check.write(x, "fee 12345;    ;");
+        x.end(10);
+        Check.same("a rule at the end", x.contract(0), 1);
+        Check.write(x, "fee 1 if late;");
+        x.end(13);
+        Check.same("a cond at the end", x.contract(0), -14);
     }
 
     private static void places() {
@@ -221,6 +244,10 @@ public final class ContractTest {
         bad(rule + times(" ", 294), 300, 1);
         bad(rule + times(" ", 333), 300, 1);
         bad(times(" ", 301), 300, 1);
+        bad(rule + times(" ", 293) + rule, 300, 1);
+        bad(rule + times(" ", 292) + rule, 299, 3);
+        bad("rest" + times(" ", 296) + "99;", 300, 1);
+        bad("rest" + times(" ", 295) + "99;", 299, 2);
         good(times(" ", 300), 0);
         bad(times(" ", 300) + "!", 300, 1);
         bad(times(" ", 299) + "!" + times(" ", 20), 299, 1);
@@ -255,6 +282,10 @@ public final class ContractTest {
         Check.same("no leave", Check.times(y, 0, 10, 0, 0), 0);
         Check.same("none again", Check.contract(y, 0, ""), 0);
         Check.same("no fee", y.fee(0, 0, 0), 0);
+        for (int k = 0; k < 12; k++) {
+            Check.contract(y, 0, "fee 1 if " + times("late or ", 30) + "late;fee 2 if room and not (cover or full);");
+            Check.same("the same again and again", y.fee(0, 0, 0), 2);
+        }
         y.next(5);
         Check.contract(y, 0, "fee 4;");
         Check.same("contracts are there for all days", y.fee(0, 0, 0), 4);

@@ -215,6 +215,15 @@ public final class HoursTest {
         Check.same("in a role that one has not", x.fee(0, c, 1), 1);
         x.cast(c, 1, 0, false);
         Check.same("in one of two roles", x.fee(0, c, 1), 3);
+        for (int k = 1; k < 12; k++) {
+            int d = x.call(9, k, 0, 0, 0);
+            x.cast(d, 1, 1, false);
+            x.cast(d, 1, 0, false);
+            Check.same("in call " + d, x.fee(0, d, 1), 3);
+            int alone = x.call(9, k, 0, 0, 0);
+            x.cast(alone, 1, 0, false);
+            Check.same("in call " + alone, x.fee(0, alone, 1), 1);
+        }
     }
 
     private static void feeNth() {
@@ -255,17 +264,23 @@ public final class HoursTest {
     private static void feeOfConds() {
         OperaHouse x = house(1);
         int c = castCall(x, 0, 20, 3, 0);
-        // true: night, late; false: room, cover
-        String[] conds = {"night or room and cover", "(night or room)and cover", "not room and not cover",
-            "not(room or night)", "not not night", "room or cover or night", "room and night or late",
-            "night and late and cover", "not night or late", "not (night and room) and late",
-            "not room and (cover or (night and not (late and cover)))", "hours>4", "hours>3", "hours=4", "hours<4",
-            "hours<5", "nth=1", "nth<1", "over<1", "over=0", "over>0", "hours<99999", "hours=00004"};
-        boolean[] due = {true, false, true, false, true, true, true, false, true, true, true, false, true, true, false,
-            true, true, false, true, true, false, true, true};
-        for (int k = 0; k < conds.length; k++) {
-            Check.contract(x, 0, "fee 7 if " + conds[k] + ";");
-            Check.same("fee if " + conds[k], x.fee(0, c, 0), due[k] ? 7 : 0);
+        // so of the call: night, late; not so: room, full, cover
+        String[] so = {"night or room and cover", "not room and not cover", "not not night", "room or cover or night",
+            "room and night or late", "not night or late", "not (night and room) and late",
+            "not room and (cover or (night and not (late and cover)))", "not (cover or night and room)",
+            "late and not (cover or (room or night and full) and late)", "(room or late)and(cover or night)",
+            "hours>3", "hours=4", "hours<5", "nth=1", "over<1", "over=0", "hours<99999", "hours=00004"};
+        String[] notSo = {"(night or room)and cover", "not(room or night)", "night and late and cover",
+            "not (night and room) and not late", "night and (cover or late and (room or full))",
+            "room and (cover or late)", "room and late or cover and night or full", "hours>4", "hours<4", "nth<1",
+            "nth=0", "over>0", "hours=99999"};
+        for (String cond : so) {
+            Check.contract(x, 0, "fee 7 if " + cond + ";");
+            Check.same("fee if " + cond, x.fee(0, c, 0), 7);
+        }
+        for (String cond : notSo) {
+            Check.contract(x, 0, "fee 7 if " + cond + ";");
+            Check.same("no fee if " + cond, x.fee(0, c, 0), 0);
         }
         Check.contract(x, 0, "fee 99999;fee 99999;fee 99999;fee 99999;fee 99999;fee 99999;fee 99999;fee 99999;");
         Check.same("all fees that hold", x.fee(0, c, 0), 799992);

@@ -137,6 +137,31 @@ public final class HouseTest {
         y.cast(y.call(1, 12, 0, 0, 0), 0, 0, false);
         Check.same("11 hours of rest", Check.times(y, 0, 12, 1, 0), 1);
         Check.same("12 hours of rest", Check.times(y, 0, 12, 2, 0), 0);
+        noTextWeekAndVoice();
+    }
+
+    private static void noTextWeekAndVoice() {
+        OperaHouse x = new OperaHouse();
+        Check.opera(x, 2, 0, false, 1, 0, 25, 0, 0);
+        x.singer(1, 1, 0);
+        for (int k = 0; k < 5; k++) {
+            x.cast(x.call(3 + k, 0, 3, 0, 0), 0, 0, false);
+        }
+        Check.same("four nights in a week", Check.times(x, 0, 14, 3, 0), 0);
+        Check.same("five nights", Check.times(x, 0, 14, 4, 0), 1);
+        OperaHouse y = new OperaHouse();
+        Check.opera(y, 2, 0, false, 1, 0, 25, 0, 0, 0, 25, 0, 0, 0, 1, 0, 0);
+        y.singer(1, 1, 0);
+        int c = y.call(0, 0, 3, 0, 0);
+        y.cast(c, 0, 0, false);
+        y.cast(c, 1, 0, false);
+        Check.same("100 are not more than 100", Check.times(y, 0, 15, c, 0), 0);
+        int d = y.call(0, 1, 2, 0, 0);
+        y.cast(d, 2, 0, false);
+        Check.same("99 and 1 are not", Check.times(y, 0, 15, d, 2), 0);
+        int e = y.call(0, 1, 2, 0, 0);
+        y.cast(e, 2, 0, false);
+        Check.same("101 are", Check.times(y, 0, 15, e, 2), 1);
     }
 
     private static void players() {

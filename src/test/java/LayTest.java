@@ -16,6 +16,9 @@ public final class LayTest {
         toldSince();
         tooManyCasts();
         keepTellsToday();
+        manyRoles();
+        firstOfAll();
+        wrongAlready();
         Check.end();
     }
 
@@ -320,6 +323,79 @@ public final class LayTest {
         Check.same("laid", lay(x, 2, 9, 20, 0, 0), 2);
         Check.same("400 casts", x.keep(), 5);
         Check.same("400", x.count(4), 400);
+    }
+
+    /** An opera of three roles and one of one. */
+    private static void manyRoles() {
+        OperaHouse x = new OperaHouse();
+        Check.opera(x, 2, 0, false, 1, 0, 1, 0, 0, 0, 1, 0, 0, 0, 1, 0, 0);
+        Check.opera(x, 2, 0, false, 1, 0, 1, 0, 0);
+        for (int s = 0; s < 5; s++) {
+            x.singer(1, 1, 0);
+        }
+        int[] cast = {3, 0, 4};
+        for (int o = 0; o < 2; o++) {
+            for (int kind = 0; kind < 3; kind++) {
+                int c = x.call(o, 8 + 3 * kind, kind, o, 0);
+                for (int r = 0; r < (o == 0 ? 3 : 1); r++) {
+                    x.cast(c, r, o == 0 ? cast[r] : 2, false);
+                }
+            }
+        }
+        Check.contract(x, 4, "leave 0 to 4;");
+        Check.same("the third is away", lay(x, 2, 9, 20, 1, 0, 1), 1 + 3 + 1);
+        days("the third is away", x, 2, 5, 6);
+        x.who(0, 0, false, -1);
+        x.wrong(-1);
+        Check.same("kept", x.keep(), 9);
+        Check.same("five casts more", x.count(4), 12 + 5);
+        for (int r = 0; r < 3; r++) {
+            Check.same("role " + r, x.who(7, r, false, 0), cast[r]);
+            Check.same("role " + r + " of others", x.who(6, r, false, 0), r == 0 ? 2 : -1);
+            Check.same("role " + r + " of others", x.who(8, r, false, 0), r == 0 ? 2 : -1);
+        }
+        Check.wrong("only who was away at the beginning", x, 0, 10, 0, 2, 10, 1, 2, 10, 2, 2);
+        x.cast(0, 1, -1, false);
+        Check.same("nobody in one role", lay(x, 8, 9, 20, 0), 0);
+    }
+
+    /** Nights tried ahead of all calls go again. */
+    private static void firstOfAll() {
+        OperaHouse x = house(1);
+        Check.same("hour 0 of day 0, of day 1 (no rest), of day 2", lay(x, 0, 9, 0, 0), 3);
+        days("hour 0", x, 2);
+        Check.same("kept", x.keep(), 4);
+        Check.wrong("all holds", x, 0);
+        OperaHouse y = new OperaHouse();
+        Check.opera(y, 2, 0, false, 1, 0, 1, 0, 0);
+        Check.same("no call at all", lay(y, 0, 29, 0, 0), 0);
+        Check.same("none yet", y.count(3), 0);
+        OperaHouse z = house(1);
+        z.ill(0, 1, 2);
+        Check.same("none holds", lay(z, 0, 2, 0, 0), 0);
+        Check.same("three calls", z.count(3), 3);
+        Check.wrong("and nothing wrong", z, 0);
+    }
+
+    /** What is wrong of other calls already does not matter, what comes does, of the first call, too. */
+    private static void wrongAlready() {
+        OperaHouse x = house(1);
+        int marks = x.call(0, 13, 1, 0, 0);
+        x.call(3, 10, 3, 0, 0);
+        Check.same("kinds 1, 7 and 7", x.wrong(0), 3);
+        Check.same("kind 1", Check.times(x, 0, 1, 2, -1) + Check.times(x, 0, 1, marks, -1), 1);
+        Check.same("held", lay(x, 5, 9, 20, 0), 1);
+        OperaHouse y = new OperaHouse();
+        Check.opera(y, 2, 0, false, 1, 0, 1, 0, 0);
+        y.singer(1, 1, 0);
+        y.call(7, 21, 0, 0, 0);
+        y.cast(0, 0, 0, false);
+        rehearse(y, 0);
+        Check.same("call 0 would be twice", lay(y, 7, 9, 20, 0), 2);
+        y.call(9, 21, 1, 0, 0);
+        Check.same("the marks would be crowded", lay(y, 9, 9, 20, 0), 0);
+        y.call(9, 20, 1, 0, 0);
+        Check.same("crowded already by none", lay(y, 9, 9, 19, 0), 0);
     }
 
     private static void keepTellsToday() {

@@ -142,6 +142,8 @@ public final class SteadTest {
         Check.yes("one is wrong there now", x.may(2, c, 0));
         x.singer(2, 1, 5);
         Check.no("another one would be as wrong", x.may(4, c, 0));
+        Check.same("two are wrong", x.wrong(0), 1);
+        Check.no("also behind wrong", x.may(4, c, 0));
         x.cast(c, 0, 2, true);
         Check.yes("a cover is not cast", x.may(2, c, 0));
         x.cast(c, 0, -1, false);

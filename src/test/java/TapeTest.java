@@ -45,6 +45,39 @@ public final class TapeTest {
             }
         }
         Check.same("168 hours in a week are not more than weekly", Check.times(y, 0, 6, 27, -1), 0);
+        oneHourMore();
+    }
+
+    private static void oneHourMore() {
+        OperaHouse x = new OperaHouse();
+        Check.opera(x, 6, 0, true, 1, 0, 1, 0, 0);
+        Check.opera(x, 2, 0, true, 1, 0, 1, 0, 0);
+        for (int k = 0; k < 3; k++) {
+            x.call(0, 6 * k, 2, 0, 0);
+        }
+        x.call(0, 18, 1, 0, 0);
+        x.call(0, 20, 2, 1, 0);
+        int over = x.call(0, 22, 2, 1, 0);
+        Check.same("23 hours of a day", Check.times(x, 0, 6, 4, -1), 0);
+        Check.same("25 hours of a day", Check.times(x, 0, 6, over, -1), 1);
+        OperaHouse y = new OperaHouse();
+        Check.opera(y, 6, 0, true, 1, 0, 1, 0, 0);
+        Check.opera(y, 2, 0, true, 1, 0, 1, 0, 0);
+        for (int k = 0; k < 27; k++) {
+            y.call(k / 4, k % 4 * 6, 2, 0, 0);
+        }
+        y.call(6, 17, 1, 0, 0);
+        y.call(6, 18, 2, 1, 0);
+        int last = y.call(6, 20, 2, 1, 0);
+        Check.same("167 hours of a week", Check.times(y, 0, 6, 28, -1), 0);
+        Check.same("169 hours of a week (though 25 of its day)", Check.times(y, 0, 6, last, -1), 1);
+        y.chorus(24, 168);
+        y.call(7, 0, 2, 0, 0);
+        Check.same("the week goes on", Check.times(y, 0, 6, 30, -1), 0);
+        y.call(7, 6, 2, 0, 0);
+        y.call(7, 12, 2, 0, 0);
+        y.call(7, 18, 2, 0, 0);
+        Check.same("169 hours of a week, 24 of its day", Check.times(y, 0, 6, 33, -1), 1);
     }
 
     private static void feeding() {

@@ -15,6 +15,7 @@ public final class WagonsTest {
         Check.same("most of all", x.moves(1, Integer.MAX_VALUE), -1);
         noCallsCount();
         oneBehindTheOther();
+        asTheModel();
         Check.end();
     }
 
@@ -27,6 +28,35 @@ public final class WagonsTest {
         x.wrong(0);
         Check.same("calls do not matter", x.moves(2, 3), 3);
         Check.same("and again", x.moves(0, 0), 0);
+    }
+
+    /** Fulls of all sets close behind each other, in 200 rows that a written-out number makes. */
+    private static void asTheModel() {
+        long seed = 4711;
+        for (int row = 0; row < 200; row++) {
+            OperaHouse x = new OperaHouse();
+            Model m = new Model();
+            for (int set = 0; set < 4; set++) {
+                Check.opera(x, 2, set, false, 1, 0, 1, 0, 0);
+                m.feed(0, 0x00010000, 0, 0, 0);
+                m.end(8);
+                m.opera(2, set, false, 1);
+            }
+            int hour = 0;
+            for (int k = 0; k < 40; k++) {
+                seed = seed * 6364136223846793005L + 1442695040888963407L;
+                int o = (int) (seed >>> 40) & 3;
+                hour += (int) (seed >>> 50) % 5 + (k == 0 ? (int) (seed >>> 45) % 16 : 0);
+                if (hour % 24 < 22) {
+                    x.call(hour / 24, hour % 24, 2, o, 0);
+                    m.call(hour / 24, hour % 24, 2, o, 0);
+                }
+                hour += 2;
+            }
+            for (int c = 0; c < x.count(3); c++) {
+                Check.same("row " + row + ", call " + c, Check.times(x, 0, 2, c, -1), m.wrongSets().contains(c) ? 1 : 0);
+            }
+        }
     }
 
     /** By kind 2: how many hours each set needs to follow each other one at stage, with time to make ready. */

@@ -196,6 +196,11 @@ public final class WrongTest {
         z.call(0, 3, 0, 0, 0);
         z.call(0, 5, 2, 0, 0);
         Check.same("marks ahead of the room alone", Check.times(z, 0, 3, z.call(0, 8, 3, 0, 0), -1), 1);
+        OperaHouse w = house(1, 1);
+        w.call(0, 0, 0, 0, 0);
+        w.call(0, 2, 1, 0, 0);
+        w.call(0, 5, 2, 0, 0);
+        Check.same("from hour 0 on", Check.times(w, 0, 3, w.call(0, 8, 3, 0, 0), -1), 0);
         Check.same("a full needs none of these", Check.times(z, 0, 3, 2, -1), 0);
     }
 
@@ -233,6 +238,10 @@ public final class WrongTest {
         Check.same("twelve hours in the week", Check.times(x, 0, 6, a, -1), 0);
         Check.same("fifteen", Check.times(x, 0, 6, b, -1), 1);
         Check.same("the week has gone on", Check.times(x, 0, 6, c, -1), 0);
+        x.chorus(3, 9);
+        Check.same("nine in the week, calls of other weeks do not count", Check.times(x, 0, 6, c, -1), 0);
+        x.chorus(3, 8);
+        Check.same("nine are more than eight", Check.times(x, 0, 6, c, -1), 1);
     }
 
     /** Kinds 7, 8, 10. */
@@ -346,6 +355,8 @@ public final class WrongTest {
         Check.same("nine are", Check.times(x, 0, 13, d, 0), 1);
         Check.same("not those ahead", Check.times(x, 0, 13, c, 0), 0);
         Check.same("another day", Check.times(x, 0, 13, castCall(x, 1, 0, 0, 0, 0), 0), 0);
+        castCall(x, 1, 3, 1, 0, 0);
+        Check.same("and seven of it", Check.times(x, 0, 13, castCall(x, 1, 9, 0, 0, 0), 0), 0);
         x.call(0, 0, 0, 0, 0);
         Check.contract(x, 0, "day 2;");
         Check.same("seven are more than six", Check.times(x, 0, 13, c, 0), 1);
@@ -384,6 +395,16 @@ public final class WrongTest {
         Check.same("still tired by a room of the same hour", Check.times(x, 0, 15, castCall(x, 0, 13, 0, 0, 0), 0), 1);
         Check.same("and less an hour later", Check.times(x, 0, 15, castCall(x, 0, 14, 0, 0, 0), 0), 0);
         Check.same("the room ahead", Check.times(x, 0, 15, room, 0), 0);
+        OperaHouse y = house(1, 1);
+        Check.contract(y, 0, "voice 15;");
+        int first = castCall(y, 0, 0, 2, 0, 0);
+        Check.same("one", Check.times(y, 0, 15, first, 0), 0);
+        int second = castCall(y, 0, 0, 2, 0, 0);
+        Check.same("two have begun", Check.times(y, 0, 15, first, 0), 1);
+        Check.same("of both", Check.times(y, 0, 15, second, 0), 1);
+        castCall(y, 1, 0, 2, 0, 0);
+        castCall(y, 2, 0, 2, 0, 0);
+        Check.same("on other days not", Check.times(y, 0, 15, 2, 0), 0);
     }
 
     private static void asOf() {
