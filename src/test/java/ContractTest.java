@@ -192,7 +192,12 @@ public final class ContractTest {
         bad(times("fee 7;", 8) + "fee", 48, 3);
         good("fee 0;fee 99999;", 2);
         bad("fee 100000;", 4, 1);
-        good("rest 1;day 1;week 1;voice 1;" + times("leave 1 to 1;", 6) + times("fee 1;", 8), 18);
+        String all = "rest 1;day 1;week 1;voice 1;" + times("leave 1 to 1;", 6) + times("fee 1;", 8);
+        good(all, 18);
+        bad(all + "day 1;", all.length(), 3);
+        bad(all + "leave", all.length(), 3);
+        bad(all + "fee 1;", all.length(), 3);
+        bad(all + "or", all.length(), 1);
     }
 
     private static void conds() {

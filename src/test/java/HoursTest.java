@@ -217,12 +217,15 @@ public final class HoursTest {
         Check.same("in one of two roles", x.fee(0, c, 1), 3);
         for (int k = 1; k < 12; k++) {
             int d = x.call(9, k, 0, 0, 0);
-            x.cast(d, 1, 1, false);
-            x.cast(d, 1, 0, false);
+            x.cast(d, k % 2, 1, false);
+            x.cast(d, k % 2, 0, false);
             Check.same("in call " + d, x.fee(0, d, 1), 3);
             int alone = x.call(9, k, 0, 0, 0);
             x.cast(alone, 1, 0, false);
             Check.same("in call " + alone, x.fee(0, alone, 1), 1);
+        }
+        for (int alone = 2; alone < 23; alone += 2) {
+            Check.same("in call " + alone + " of all", x.fee(0, alone, 1), 1);
         }
     }
 

@@ -392,6 +392,15 @@ public final class LayTest {
         y.cast(0, 0, 0, false);
         rehearse(y, 0);
         Check.same("call 0 would be twice", lay(y, 7, 9, 20, 0), 2);
+        OperaHouse z = new OperaHouse();
+        Check.opera(z, 2, 0, false, 1, 0, 1, 0, 0);
+        Check.opera(z, 2, 0, false, 1, 0, 1, 0, 0);
+        z.singer(1, 1, 0);
+        z.singer(1, 1, 0);
+        z.call(7, 21, 1, 1, 0);
+        z.cast(0, 0, 1, false);
+        rehearse(z, 0);
+        Check.same("call 0 would be crowded", lay(z, 7, 9, 20, 0), 2);
         y.call(9, 21, 1, 0, 0);
         Check.same("the marks would be crowded", lay(y, 9, 9, 20, 0), 0);
         y.call(9, 20, 1, 0, 0);

@@ -71,7 +71,6 @@ public final class TapeTest {
         int last = y.call(6, 20, 2, 1, 0);
         Check.same("167 hours of a week", Check.times(y, 0, 6, 28, -1), 0);
         Check.same("169 hours of a week (though 25 of its day)", Check.times(y, 0, 6, last, -1), 1);
-        y.chorus(24, 168);
         y.call(7, 0, 2, 0, 0);
         Check.same("the week goes on", Check.times(y, 0, 6, 30, -1), 0);
         y.call(7, 6, 2, 0, 0);

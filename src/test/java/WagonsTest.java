@@ -1,3 +1,5 @@
+import java.util.Set;
+
 /** Promise 22: moves. */
 public final class WagonsTest {
     public static void main(String[] args) {
@@ -53,8 +55,9 @@ public final class WagonsTest {
                 }
                 hour += 2;
             }
+            Set<Integer> wrong = m.wrongSets();
             for (int c = 0; c < x.count(3); c++) {
-                Check.same("row " + row + ", call " + c, Check.times(x, 0, 2, c, -1), m.wrongSets().contains(c) ? 1 : 0);
+                Check.same("row " + row + ", call " + c, Check.times(x, 0, 2, c, -1), wrong.contains(c) ? 1 : 0);
             }
         }
     }

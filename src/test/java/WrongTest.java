@@ -405,6 +405,7 @@ public final class WrongTest {
         castCall(y, 1, 0, 2, 0, 0);
         castCall(y, 2, 0, 2, 0, 0);
         Check.same("on other days not", Check.times(y, 0, 15, 2, 0), 0);
+        Check.same("the first of four", Check.times(y, 0, 15, first, 0), 1);
     }
 
     private static void asOf() {
