@@ -474,23 +474,16 @@ public final class OperaHouse {
         /** The WORD or sign that stands on the tape between two places; BAD: none does. */
         static Token find(int[] tape, int from, int to) {
             for (int k = 0; k < ALL.length; k++) {
-                if (ALL[k].stands(tape, from, to)) {
+                String text = ALL[k].text;
+                int alike = 0;
+                while (alike < text.length() && from + alike < to && text.charAt(alike) == tape[from + alike]) {
+                    alike++;
+                }
+                if (alike > 0 && alike == text.length() && alike == to - from) {
                     return ALL[k];
                 }
             }
             return BAD;
-        }
-
-        private boolean stands(int[] tape, int from, int to) {
-            if (text.isEmpty() || text.length() != to - from) {
-                return false;
-            }
-            for (int k = 0; k < text.length(); k++) {
-                if (text.charAt(k) != tape[from + k]) {
-                    return false;
-                }
-            }
-            return true;
         }
 
         /** Whether a ONE can begin with it. */
@@ -1148,7 +1141,9 @@ public final class OperaHouse {
         private int number;
 
         void reset() {
-            Arrays.fill(seen, false);
+            for (int i = 0; i < STANDS; i++) {
+                seen[i] = false;
+            }
             number = 0;
             reach(FIRST_STAND);
         }
@@ -1175,6 +1170,9 @@ public final class OperaHouse {
 
         private void moveAll(int stand) {
             int free = freePlace(stand);
+            if (free < 0 || free >= PLACES) {
+                return;
+            }
             for (int k = 0; k < MOST_NEAR; k++) {
                 int from = NEAR[free * MOST_NEAR + k];
                 for (int set = 0; set < WORTH.length; set++) {
