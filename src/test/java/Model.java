@@ -86,11 +86,11 @@ final class Model {
     int nightHour;
     boolean toldSince = true;
 
-    int feed(int... numbers) {
+    int feed(int a, int b, int c, int d, int e) {
         if (tape.size() + 20 > 340) {
             return NONE;
         }
-        for (int n : numbers) {
+        for (int n : new int[] {a, b, c, d, e}) {
             tape.add(n >>> 24);
             tape.add(n >>> 16 & 255);
             tape.add(n >>> 8 & 255);

@@ -1,12 +1,12 @@
+import java.lang.reflect.InvocationTargetException;
+import java.lang.reflect.Method;
+import java.lang.reflect.Modifier;
 import java.util.ArrayList;
 import java.util.List;
 import java.util.NoSuchElementException;
 
 /** Runs of calls by a written-out number row, each answer held against Model's. */
 public final class RandomRuns {
-    private static final String[] NAMES = {"feed", "end", "next", "opera", "singer", "players", "chorus", "contract",
-        "fault", "learn", "call", "cast", "ill", "who", "wrong", "told", "learned", "tired", "fee", "pay", "moves",
-        "may", "harm", "instead", "lay", "laid", "keep", "count"};
     private static final int THROWN = -77777;
     private static final int MOST_CALLS = 512;
 
@@ -17,7 +17,6 @@ public final class RandomRuns {
     private final List<String> trace = new ArrayList<>();
     private boolean good = true;
     private int maxRoles;
-    private static final int[] hits = new int[32];
     private static final int[] kindsSeen = new int[16];
     private static final int[] faultsSeen = new int[5];
     private static int laidWell, givenUp, noWay, kept, mays, steads;
@@ -73,26 +72,8 @@ public final class RandomRuns {
             return -1;
         }
         calls++;
-        int op = 0;
-        while (!NAMES[op].equals(name)) {
-            op++;
-        }
-        hits[op]++;
-        int due;
-        int got;
-        try {
-            due = onModel(op, a);
-        } catch (NoSuchElementException e) {
-            due = THROWN;
-        }
-        try {
-            got = onHouse(op, a);
-        } catch (NoSuchElementException e) {
-            got = THROWN;
-        } catch (RuntimeException e) {
-            e.printStackTrace(System.out);
-            got = THROWN + 1;
-        }
+        int due = answer(model, name, a);
+        int got = answer(house, name, a);
         StringBuilder line = new StringBuilder(name).append('(');
         for (int k = 0; k < a.length; k++) {
             line.append(k == 0 ? "" : ", ").append(a[k]);
@@ -108,71 +89,33 @@ public final class RandomRuns {
         return got;
     }
 
-    private int onHouse(int op, int[] a) {
-        OperaHouse x = house;
-        switch (op) {
-            case 0: return x.feed(a[0], a[1], a[2], a[3], a[4]);
-            case 1: return x.end(a[0]) ? 1 : 0;
-            case 2: return x.next(a[0]);
-            case 3: return x.opera(a[0], a[1], a[2] != 0, a[3]);
-            case 4: return x.singer(a[0], a[1], a[2]);
-            case 5: return x.players(a[0], a[1], a[2]) ? 1 : 0;
-            case 6: return x.chorus(a[0], a[1]) ? 1 : 0;
-            case 7: return x.contract(a[0]);
-            case 8: return x.fault();
-            case 9: return x.learn(a[0], a[1], a[2], a[3]) ? 1 : 0;
-            case 10: return x.call(a[0], a[1], a[2], a[3], a[4]);
-            case 11: return x.cast(a[0], a[1], a[2], a[3] != 0) ? 1 : 0;
-            case 12: return x.ill(a[0], a[1], a[2]) ? 1 : 0;
-            case 13: return x.who(a[0], a[1], a[2] != 0, a[3]);
-            case 14: return x.wrong(a[0]);
-            case 15: return x.told(a[0], a[1]);
-            case 16: return x.learned(a[0], a[1], a[2], a[3]);
-            case 17: return x.tired(a[0], a[1], a[2]);
-            case 18: return x.fee(a[0], a[1], a[2]);
-            case 19: return x.pay(a[0], a[1], a[2]);
-            case 20: return x.moves(a[0], a[1]);
-            case 21: return x.may(a[0], a[1], a[2]) ? 1 : 0;
-            case 22: return x.harm(a[0], a[1], a[2]);
-            case 23: return x.instead(a[0], a[1]);
-            case 24: return x.lay(a[0], a[1], a[2]);
-            case 25: return x.laid(a[0]);
-            case 26: return x.keep();
-            default: return x.count(a[0]);
+    /** The answer of one of both: a truth is 1 or 0, what is thrown by the document's word is THROWN. */
+    private static int answer(Object asked, String name, int[] a) {
+        Method method = null;
+        for (Method m : asked.getClass().getDeclaredMethods()) {
+            if (m.getName().equals(name) && !Modifier.isPrivate(m.getModifiers())) {
+                method = m;
+            }
         }
-    }
-
-    private int onModel(int op, int[] a) {
-        Model x = model;
-        switch (op) {
-            case 0: return x.feed(a[0], a[1], a[2], a[3], a[4]);
-            case 1: return x.end(a[0]) ? 1 : 0;
-            case 2: return x.next(a[0]);
-            case 3: return x.opera(a[0], a[1], a[2] != 0, a[3]);
-            case 4: return x.singer(a[0], a[1], a[2]);
-            case 5: return x.players(a[0], a[1], a[2]) ? 1 : 0;
-            case 6: return x.chorus(a[0], a[1]) ? 1 : 0;
-            case 7: return x.contract(a[0]);
-            case 8: return x.fault();
-            case 9: return x.learn(a[0], a[1], a[2], a[3]) ? 1 : 0;
-            case 10: return x.call(a[0], a[1], a[2], a[3], a[4]);
-            case 11: return x.cast(a[0], a[1], a[2], a[3] != 0) ? 1 : 0;
-            case 12: return x.ill(a[0], a[1], a[2]) ? 1 : 0;
-            case 13: return x.who(a[0], a[1], a[2] != 0, a[3]);
-            case 14: return x.wrong(a[0]);
-            case 15: return x.told(a[0], a[1]);
-            case 16: return x.learned(a[0], a[1], a[2], a[3]);
-            case 17: return x.tired(a[0], a[1], a[2]);
-            case 18: return x.fee(a[0], a[1], a[2]);
-            case 19: return x.pay(a[0], a[1], a[2]);
-            case 20: return x.moves(a[0], a[1]);
-            case 21: return x.may(a[0], a[1], a[2]) ? 1 : 0;
-            case 22: return x.harm(a[0], a[1], a[2]);
-            case 23: return x.instead(a[0], a[1]);
-            case 24: return x.lay(a[0], a[1], a[2]);
-            case 25: return x.laid(a[0]);
-            case 26: return x.keep();
-            default: return x.count(a[0]);
+        Object[] values = new Object[a.length];
+        for (int k = 0; k < a.length; k++) {
+            if (method.getParameterTypes()[k] == boolean.class) {
+                values[k] = a[k] != 0;
+            } else {
+                values[k] = a[k];
+            }
+        }
+        try {
+            Object given = method.invoke(asked, values);
+            return given instanceof Boolean ? (Boolean) given ? 1 : 0 : (Integer) given;
+        } catch (InvocationTargetException e) {
+            if (e.getCause() instanceof NoSuchElementException) {
+                return THROWN;
+            }
+            e.getCause().printStackTrace(System.out);
+            return THROWN + 1;
+        } catch (IllegalAccessException e) {
+            throw new IllegalStateException(e);
         }
     }
 
@@ -523,7 +466,7 @@ public final class RandomRuns {
         for (int k = 0; k < wishes.length; k++) {
             ask("laid", k);
         }
-        if (one(9)) {
+        if (one(4)) {
             ask("cast", 0, 0, 25, 0);
             kept += ask("keep") >= 0 ? 1 : 0;
         }
