@@ -614,8 +614,8 @@ public final class OperaHouse {
             paper.blank();
             advance();
             int rules = 0;
-            // One RULE more than can hold is read, for its FAULT.
             boolean good = true;
+            // One RULE more than can hold is read, for its FAULT.
             while (good && token != Token.FINISH && rules <= MOST_RULES) {
                 if (token.sort == LIMIT) {
                     good = limit(token.code);
