@@ -3,8 +3,6 @@ public final class ContractTest {
     private static OperaHouse x;
 
     public static void main(String[] args) {
-        x = new OperaHouse();
-        x.singer(63, 63, 5);
         whoAndTape();
         goodTexts();
         tokens();
@@ -21,13 +19,20 @@ public final class ContractTest {
         Check.end();
     }
 
+    private static void newHouse() {
+        x = new OperaHouse();
+        x.singer(63, 63, 5);
+    }
+
     /** A text that is good, and how many rules it has. */
     private static void good(String text, int rules) {
+        newHouse();
         Check.same("contract " + text, Check.contract(x, 0, text), rules);
         Check.same("fault of " + text, x.fault(), 0);
     }
 
     private static void bad(String text, int place, int kind) {
+        newHouse();
         Check.same("contract " + text, Check.contract(x, 0, text), -1 - place);
         Check.same("fault of " + text, x.fault(), kind);
     }
@@ -100,6 +105,7 @@ public final class ContractTest {
 
     /** Bytes that the tape had once are no more of the text. */
     private static void behindTheEnd() {
+        newHouse();
         Check.write(x, "fee 12345;rest 10;");
         x.end(3);
         Check.same("a word at the end", x.contract(0), -4);

@@ -313,7 +313,7 @@ public final class LayTest {
 
     private static void tooManyCasts() {
         OperaHouse x = house(1);
-        while (x.count(4) < 398) {
+        for (int k = x.count(4); k < 398; k++) {
             x.cast(0, 0, 0, false);
         }
         Check.same("laid", lay(x, 2, 9, 20, 0, 0, 0), 3);

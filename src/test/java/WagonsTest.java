@@ -56,8 +56,10 @@ public final class WagonsTest {
                 hour += 2;
             }
             Set<Integer> wrong = m.wrongSets();
-            for (int c = 0; c < x.count(3); c++) {
-                Check.same("row " + row + ", call " + c, Check.times(x, 0, 2, c, -1), wrong.contains(c) ? 1 : 0);
+            int calls = x.count(3);
+            int[][] all = Check.wrongs(x, 0);
+            for (int c = 0; c < calls; c++) {
+                Check.same("row " + row + ", call " + c, Check.times(all, 2, c, -1), wrong.contains(c) ? 1 : 0);
             }
         }
     }
