@@ -12,6 +12,7 @@ public final class TermsTest {
         tiredDownToNothing();
         howLongTheWagonsTake();
         whatHoldsTheWagons();
+        marksNeedNoSet();
         wagonsBehindMarksThatOverlap();
         crowdedByBoth();
         whatIsOn();
@@ -288,6 +289,24 @@ public final class TermsTest {
         is("marks in the last of them", x, 2, rooms, true);
     }
 
+    /** Kind 2 is of FULL and NIGHT: marks need no set, and bind none. */
+    private static void marksNeedNoSet() {
+        for (int set = 0; set < 4; set++) {
+            OperaHouse x = house(1, 1);
+            int first = x.call(0, 0, 1, set, 0);
+            int room = x.call(0, 0, 0, set, 0);
+            int full = x.call(0, 3, 2, 0, 0);
+            is("marks in the first hour, set " + set, x, 2, first, false);
+            is("a room in the first hour, set " + set, x, 2, room, false);
+            is("a full behind them, set 0", x, 2, full, false);
+            OperaHouse y = house(1, 1);
+            int later = y.call(0, 3, 1, set, 0);
+            int soon = y.call(0, 6, 3, 0, 0);
+            is("marks in the fourth hour, set " + set, y, 2, later, false);
+            is("a night behind them, set 0", y, 2, soon, false);
+        }
+    }
+
     /** Hours in which two calls are on are hours once. */
     private static void wagonsBehindMarksThatOverlap() {
         for (int hour = 7; hour < 10; hour++) {
@@ -401,6 +420,20 @@ public final class TermsTest {
                     y.call(0, 3 * k, k, k == kind && less == 3 ? 1 : 0, 0);
                 }
                 is("kind " + kind + " of another opera", y, 3, y.call(0, 10, 3, 0, 0), less == 3);
+            }
+        }
+        for (int o = 0; o < 4; o++) {
+            for (int missing = 0; missing < 4; missing++) {
+                OperaHouse x = house(1, 1);
+                for (int k = 0; k < 3; k++) {
+                    if (k != missing) {
+                        x.call(0, 3 * k, k, o, 0);
+                    }
+                    for (int other = 1; other < 4; other++) {
+                        x.call(0, 3 * k, k, (o + other) % 4, 0);
+                    }
+                }
+                is("opera " + o + " without " + missing, x, 3, x.call(0, 10, 3, o, 0), missing < 3);
             }
         }
         OperaHouse x = house(1, 1);
