@@ -16,6 +16,7 @@ public final class SteadEdgeTest {
         nightsOfEightRoles();
         daysOneBehindTheOther();
         fromTheFirstToTheLastDay();
+        goingBackHelps();
         castOfTheLeastNumber();
         notHeldByEachKind();
         laidUntilTheNextLay();
@@ -374,6 +375,48 @@ public final class SteadEdgeTest {
             Check.same("today", lay(x, day, day, 22, 0), 1);
             Check.same("at the first hour", lay(x, day, day, 0, 0), 1);
         }
+    }
+
+    /**
+     * "where none holds one goes back and tries the next DAY of the OPERA ahead", and then it holds: set 1 is at
+     * stage at hour 8 of day 0, behind three free hours. Two free hours later, on day 1, set 2 can be, but from there
+     * set 3 can't in four hours (two on day 2, where no night is, and two on day 3). If set 2 comes on day 2, the
+     * wagons have had four hours to make ready, and two are enough for set 3 on day 3.
+     */
+    private static void goingBackHelps() {
+        OperaHouse x = wagonsInNarrowHours();
+        Check.same("1; 2, 3; 2; 3", lay(x, 1, 3, 22, 1, 2), 5);
+        Check.same("not the first day that held", x.laid(0), 2);
+        Check.same("the day behind it", x.laid(1), 3);
+        Check.same("kept", x.keep(), 36);
+        Check.same("the sets were there", Check.times(x, 0, 2, 34, -1) + Check.times(x, 0, 2, 35, -1), 0);
+        x = wagonsInNarrowHours();
+        Check.same("1; 2; 2, but there is no day behind day 2", lay(x, 1, 2, 22, 1, 2), 0);
+        x = wagonsInNarrowHours();
+        Check.same("day 1 alone", lay(x, 1, 1, 22, 1), 1);
+    }
+
+    private static OperaHouse wagonsInNarrowHours() {
+        OperaHouse x = new OperaHouse();
+        for (int o = 0; o < 3; o++) {
+            Check.opera(x, 2, o + 1, false, 1, 0, 1, 0, 0);
+            x.singer(1, 1, 0);
+            x.learn(o, o, 0, 1);
+        }
+        for (int o = 1; o < 3; o++) {
+            Check.castCall(x, 0, 0, 0, o, o);
+            x.call(0, 2, 1, o, 0);
+            x.call(0, 5, 2, o, 0);
+        }
+        x.call(0, 8, 2, 0, 0);
+        int[][] marks = {{10, 13, 16, 19, 21}, {0, 3, 6, 9, 12, 15, 17}, {0, 3, 6, 9, 12, 15, 18, 19},
+            {0, 3, 6, 9, 12, 15, 17}};
+        for (int day = 0; day < 4; day++) {
+            for (int hour : marks[day]) {
+                x.call(day, hour, 1, 0, 0);
+            }
+        }
+        return x;
     }
 
     /** "each with the CAST of the CALL of its OPERA with the least number" */
