@@ -360,6 +360,8 @@ public final class LimitTest {
                 Check.same("fault of " + text, x.fault(), n + 1 <= 12 ? 0 : 4);
                 String beside = "fee 1 if late or " + text.substring(9);
                 Check.same(beside, Check.contract(x, 0, beside), n + 1 <= 12 ? 1 : -1 - place - 8);
+                String joined = "fee 1 if late and " + text.substring(9);
+                Check.same(joined, Check.contract(x, 0, joined), n + 1 <= 12 ? 1 : -1 - place - 9);
             }
         }
     }
@@ -451,6 +453,17 @@ public final class LimitTest {
             Check.same("calls then", x.count(3), told <= 398 ? 5 : 3);
             Check.same("laid they are still", x.laid(1), 4);
             Check.same("once more", x.keep(), -1);
+        }
+        for (int told = 399; told <= 400; told++) {
+            // nobody in the marks, which no night asks for
+            OperaHouse x = season(1);
+            x.cast(1, 0, -1, false);
+            for (int k = 4; k < told; k++) {
+                x.cast(0, 0, 0, true);
+            }
+            Check.same("laid", lay(x, 3, 28, 0), 1);
+            Check.same("kept behind " + told, x.keep(), told == 399 ? 4 : -1);
+            Check.same("casts then", x.count(4), 400);
         }
     }
 

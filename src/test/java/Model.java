@@ -1,6 +1,8 @@
 import java.util.ArrayList;
+import java.util.HashMap;
 import java.util.HashSet;
 import java.util.List;
+import java.util.Map;
 import java.util.NoSuchElementException;
 import java.util.Set;
 import java.util.TreeSet;
@@ -75,6 +77,8 @@ final class Model {
     int daily = 24, weekly = 168;
     /** call, role, singer, cover, day told. */
     List<int[]> casts = new ArrayList<>();
+    /** The same ones, those of a role in a call (and its covers) for themselves. */
+    private Map<Integer, List<int[]>> castsOf = new HashMap<>();
     /** singer, from, to, day told. */
     List<int[]> ills = new ArrayList<>();
     /** singer, opera, role, hours, day told. */
@@ -437,9 +441,26 @@ final class Model {
         if (!isRole(c, r) || s < -1 || s >= singers.size() || events.get(c).day < today || casts.size() == 400) {
             return false;
         }
-        casts.add(new int[] {c, r, s, cover ? 1 : 0, today});
+        tellCast(c, r, s, cover);
         toldSince = true;
         return true;
+    }
+
+    private void tellCast(int c, int r, int s, boolean cover) {
+        int[] telling = {c, r, s, cover ? 1 : 0, today};
+        casts.add(telling);
+        // a list of its own, as copies of the model share the old one
+        List<int[]> all = new ArrayList<>(castsThere(c, r, cover));
+        all.add(telling);
+        castsOf.put(castKey(c, r, cover), all);
+    }
+
+    private static int castKey(int c, int r, boolean cover) {
+        return c * 16 + r * 2 + (cover ? 1 : 0);
+    }
+
+    private List<int[]> castsThere(int c, int r, boolean cover) {
+        return castsOf.getOrDefault(castKey(c, r, cover), List.of());
     }
 
     boolean ill(int s, int from, int to) {
@@ -470,8 +491,8 @@ final class Model {
     /** All who were told there and known by t, the latest last. */
     List<Integer> tellings(int c, int r, boolean cover, int t) {
         List<Integer> all = new ArrayList<>();
-        for (int[] x : casts) {
-            if (x[0] == c && x[1] == r && x[3] == (cover ? 1 : 0) && x[4] <= t) {
+        for (int[] x : castsThere(c, r, cover)) {
+            if (x[4] <= t) {
                 all.add(x[2]);
             }
         }
@@ -482,8 +503,11 @@ final class Model {
         if (!isRole(c, r)) {
             return NONE;
         }
-        List<Integer> all = tellings(c, r, cover, t);
-        return all.isEmpty() ? NONE : all.get(all.size() - 1);
+        int latest = NONE;
+        for (int[] x : castsThere(c, r, cover)) {
+            latest = x[4] <= t ? x[2] : latest;
+        }
+        return latest;
     }
 
     boolean isIn(int s, int c, int t) {
@@ -713,6 +737,7 @@ final class Model {
         Set<Integer> wrong = new TreeSet<>();
         Set<String> stands = atFirst();
         List<Event> order = inOrder();
+        boolean allReached = false;
         for (int hour = 0; hour < 720; hour++) {
             boolean busy = false;
             for (Event e : order) {
@@ -722,12 +747,15 @@ final class Model {
                         wrong.add(e.number);
                     } else {
                         stands = some;
+                        allReached = false;
                     }
                 }
                 busy |= e.kind >= 1 && isOn(e, hour);
             }
-            if (!busy) {
+            if (!busy && !allReached) {
+                int before = stands.size();
                 stands = moved(stands);
+                allReached = stands.size() == before;
             }
         }
         return wrong;
@@ -799,18 +827,26 @@ final class Model {
     }
 
     boolean prepared(Event night) {
-        for (Event room : events) {
-            for (Event marks : events) {
-                for (Event full : events) {
-                    if (room.opera == night.opera && marks.opera == night.opera && full.opera == night.opera
-                            && room.kind == 0 && marks.kind == 1 && full.kind == 2 && marks.begin() >= room.end()
-                            && full.begin() >= marks.end() && full.end() <= night.begin()) {
+        for (Event room : ofKind(0, night.opera)) {
+            for (Event marks : ofKind(1, night.opera)) {
+                for (Event full : ofKind(2, night.opera)) {
+                    if (marks.begin() >= room.end() && full.begin() >= marks.end() && full.end() <= night.begin()) {
                         return true;
                     }
                 }
             }
         }
         return false;
+    }
+
+    private List<Event> ofKind(int kind, int opera) {
+        List<Event> some = new ArrayList<>();
+        for (Event e : events) {
+            if (e.kind == kind && e.opera == opera) {
+                some.add(e);
+            }
+        }
+        return some;
     }
 
     boolean lacking(Event e) {
@@ -917,6 +953,7 @@ final class Model {
         m.daily = daily;
         m.weekly = weekly;
         m.casts = new ArrayList<>(casts);
+        m.castsOf = new HashMap<>(castsOf);
         m.ills = ills;
         m.lessons = lessons;
         return m;
@@ -943,7 +980,7 @@ final class Model {
             return false;
         }
         Model then = copy();
-        then.casts.add(new int[] {c, r, s, 0, today});
+        then.tellCast(c, r, s, false);
         return wrongOf(s).containsAll(then.wrongOf(s));
     }
 
@@ -952,7 +989,7 @@ final class Model {
             return NONE;
         }
         Model then = copy();
-        then.casts.add(new int[] {c, r, s, 0, today});
+        then.tellCast(c, r, s, false);
         Work w = workOf(events.get(c));
         int harm = who(c, r, true, today) == s ? 0 : 100;
         harm += 10 * Math.max(0, w.need - learned(s, c, r, today));
@@ -1038,7 +1075,7 @@ final class Model {
         for (int r = 0; r < operas.get(o).roles.size(); r++) {
             int s = source == NONE ? NONE : who(source, r, false, today);
             if (s != NONE) {
-                casts.add(new int[] {events.size() - 1, r, s, 0, today});
+                tellCast(events.size() - 1, r, s, false);
             }
         }
     }
@@ -1084,6 +1121,7 @@ final class Model {
         }
         events = then.events;
         casts = then.casts;
+        castsOf = then.castsOf;
         toldSince = true;
         return events.size();
     }

@@ -1,21 +1,5 @@
-import java.lang.reflect.InvocationTargetException;
-import java.lang.reflect.Method;
-import java.lang.reflect.Modifier;
-import java.util.ArrayList;
-import java.util.List;
-import java.util.NoSuchElementException;
-
 /** Runs of calls by a written-out number row, each answer held against Model's. */
-public final class RandomRuns {
-    private static final int THROWN = -77777;
-    private static final int MOST_CALLS = 512;
-
-    private long seed;
-    private OperaHouse house;
-    private Model model;
-    private int calls;
-    private final List<String> trace = new ArrayList<>();
-    private boolean good = true;
+public final class RandomRuns extends Both {
     private int maxRoles;
     private static final int[] kindsSeen = new int[16];
     private static final int[] faultsSeen = new int[5];
@@ -26,8 +10,7 @@ public final class RandomRuns {
         int from = args.length > 1 ? Integer.parseInt(args[1]) : 0;
         int failed = 0;
         for (int run = from; run < from + runs; run++) {
-            RandomRuns r = new RandomRuns();
-            r.seed = run * 7919L + 12345;
+            RandomRuns r = new RandomRuns(run * 7919L + 12345);
             r.run(run);
             if (!r.good) {
                 failed++;
@@ -53,97 +36,11 @@ public final class RandomRuns {
         }
     }
 
-    private int below(int n) {
-        seed = seed * 6364136223846793005L + 1442695040888963407L;
-        return (int) ((seed >>> 33) % n);
-    }
-
-    private int between(int low, int high) {
-        return low + below(high - low + 1);
-    }
-
-    private boolean one(int in) {
-        return below(in) == 0;
-    }
-
-    /** One call to both; the answer of the class. */
-    private int ask(String name, int... a) {
-        if (calls == MOST_CALLS || !good) {
-            return -1;
-        }
-        calls++;
-        int due = answer(model, name, a);
-        int got = answer(house, name, a);
-        StringBuilder line = new StringBuilder(name).append('(');
-        for (int k = 0; k < a.length; k++) {
-            line.append(k == 0 ? "" : ", ").append(a[k]);
-        }
-        trace.add(line.append(") ").append(got).toString());
-        if (due != got) {
-            good = false;
-            for (String x : trace) {
-                System.out.println(x);
-            }
-            System.out.println("  answered " + got + ", the model's is " + due);
-        }
-        return got;
-    }
-
-    /** The answer of one of both: a truth is 1 or 0, what is thrown by the document's word is THROWN. */
-    private static int answer(Object asked, String name, int[] a) {
-        Method method = null;
-        for (Method m : asked.getClass().getDeclaredMethods()) {
-            if (m.getName().equals(name) && !Modifier.isPrivate(m.getModifiers())) {
-                method = m;
-            }
-        }
-        Object[] values = new Object[a.length];
-        for (int k = 0; k < a.length; k++) {
-            if (method.getParameterTypes()[k] == boolean.class) {
-                values[k] = a[k] != 0;
-            } else {
-                values[k] = a[k];
-            }
-        }
-        try {
-            Object given = method.invoke(asked, values);
-            return given instanceof Boolean ? (Boolean) given ? 1 : 0 : (Integer) given;
-        } catch (InvocationTargetException e) {
-            if (e.getCause() instanceof NoSuchElementException) {
-                return THROWN;
-            }
-            e.getCause().printStackTrace(System.out);
-            return THROWN + 1;
-        } catch (IllegalAccessException e) {
-            throw new IllegalStateException(e);
-        }
-    }
-
-    private void write(int... bytes) {
-        int[] padded = new int[(bytes.length + 19) / 20 * 20];
-        System.arraycopy(bytes, 0, padded, 0, bytes.length);
-        int start = model.tape.size();
-        for (int at = 0; at < padded.length; at += 20) {
-            int[] n = new int[5];
-            for (int k = 0; k < 20; k++) {
-                n[k / 4] = n[k / 4] << 8 | padded[at + k] & 255;
-            }
-            ask("feed", n);
-        }
-        ask("end", start + bytes.length);
-    }
-
-    private void write(String text) {
-        int[] bytes = new int[text.length()];
-        for (int k = 0; k < bytes.length; k++) {
-            bytes[k] = text.charAt(k);
-        }
-        write(bytes);
+    private RandomRuns(long seed) {
+        super(seed);
     }
 
     private void run(int number) {
-        house = new OperaHouse();
-        model = new Model();
         boolean tame = number % 3 != 0;
         maxRoles = number % 4 == 1 ? 1 : number % 4 == 2 ? 2 : 4;
         if (number % 17 == 3) {

@@ -331,6 +331,15 @@ public final class TermsTest {
         is("an hour behind a long one", y, 2, early, true);
         int soon = y.call(0, 12, 2, 1, 0);
         is("three more", y, 2, soon, false);
+        for (int hour = 8; hour <= 9; hour++) {
+            OperaHouse z = new OperaHouse();
+            Check.opera(z, 6, 0, false, 1, 0, 1, 0, 0);
+            Check.opera(z, 2, 1, false, 1, 0, 1, 0, 0);
+            z.call(0, 0, 2, 0, 0);
+            z.call(0, 1, 1, 0, 0);
+            z.call(0, 2, 1, 0, 0);
+            is("free from hour 6 on, a set that needs three", z, 2, z.call(0, hour, 2, 1, 0), hour < 9);
+        }
     }
 
     /** Kind 1: "(but two MARKS may be on at once, not three)" */
@@ -444,6 +453,31 @@ public final class TermsTest {
         x.call(0, 8, 2, 0, 0);
         is("all behind it", x, 3, night, true);
         is("a night behind all", x, 3, x.call(0, 11, 3, 0, 0), false);
+        severalOfAKind();
+    }
+
+    /** The first of several that ended counts, whatever their numbers: an hour less, and it has not ended. */
+    private static void severalOfAKind() {
+        int[][] orders = {{0, 1, 2}, {2, 1, 0}, {1, 0, 2}, {2, 0, 1}};
+        for (int[] order : orders) {
+            for (int kind = 0; kind < 3; kind++) {
+                for (int less = 0; less < 2; less++) {
+                    OperaHouse x = house(1, 1);
+                    // 0 to 2 in a room, marks from 2 to 5, full from 5 to 8, the night at 8; what follows one comes too early
+                    int early = less;
+                    int[] begins = {0, 2 - (kind == 0 ? early : 0), 5 - (kind <= 1 ? early : 0)};
+                    for (int k = 0; k < 3; k++) {
+                        if (k != kind) {
+                            x.call(1, begins[k], k, 0, 0);
+                        }
+                    }
+                    for (int later : order) {
+                        x.call(1 + later, begins[kind] + later, kind, 0, 0);
+                    }
+                    is("three of kind " + kind, x, 3, x.call(1, 8 - early, 3, 0, 0), less == 1);
+                }
+            }
+        }
     }
 
     /** Kind 4: "fewer players of some GROUP than SEATS", in none, the one, the other, both halves. */
@@ -634,6 +668,7 @@ public final class TermsTest {
             is("26 of " + voice, x, 15, night, 26 > voice);
             is("10 of " + voice + ", in a room", x, 15, room, 10 > voice);
         }
+        atOneHour();
         for (int roles = 16; roles <= 17; roles++) {
             // 8 roles of strain 30 twice are 480; two such nights and more at one hour
             OperaHouse x = new OperaHouse();
@@ -655,6 +690,25 @@ public final class TermsTest {
             Check.same("1000 are more than 999", Check.times(x, 0, 15, c, 0), 1);
             x.cast(c, 1, -1, false);
             Check.same("998 are not", Check.times(x, 0, 15, c, 0), 0);
+        }
+    }
+
+    /** What begins at one hour has begun for each of these calls. */
+    private static void atOneHour() {
+        for (int voice = 8; voice < 32; voice++) {
+            OperaHouse x = house(1, 1);
+            Check.contract(x, 0, "voice " + voice + ";");
+            int alone = Check.castCall(x, 0, 0, 2, 0, 0);
+            int first = Check.castCall(x, 0, 4, 2, 0, 0);
+            int room = Check.castCall(x, 0, 4, 0, 0, 0);
+            int last = Check.castCall(x, 0, 4, 2, 1, 0);
+            int behind = Check.castCall(x, 0, 9, 1, 0, 0);
+            int[] tired = {10, 26, 26, 26, 21};
+            int[] which = {alone, first, room, last, behind};
+            for (int k = 0; k < 5; k++) {
+                is(tired[k] + " of " + voice + ", call " + which[k], x, 15, which[k], tired[k] > voice);
+                Check.same("tired of call " + which[k], x.tired(0, which[k], 0), tired[k]);
+            }
         }
     }
 
