@@ -8,6 +8,7 @@ public final class LongRuns extends Both {
     /** How often each method was asked, and how often it answered neither NONE nor false. */
     private static final int[] asked = new int[28];
     private static final int[] well = new int[28];
+    private static int noWay, givenUp;
     private static final String[] NAMES = {"feed", "end", "next", "opera", "singer", "players", "chorus", "contract",
         "fault", "learn", "call", "cast", "ill", "who", "wrong", "told", "learned", "tired", "fee", "pay", "moves",
         "may", "harm", "instead", "lay", "laid", "keep", "count"};
@@ -18,7 +19,7 @@ public final class LongRuns extends Both {
     }
 
     public static void main(String[] args) {
-        int runs = args.length > 0 ? Integer.parseInt(args[0]) : 100;
+        int runs = args.length > 0 ? Integer.parseInt(args[0]) : 200;
         int from = args.length > 1 ? Integer.parseInt(args[1]) : 0;
         int failed = 0;
         for (int run = from; run < from + runs && failed < 3; run++) {
@@ -30,7 +31,7 @@ public final class LongRuns extends Both {
         for (int k = 0; k < NAMES.length; k++) {
             seen.append(NAMES[k]).append(' ').append(well[k]).append('/').append(asked[k]).append(k == 27 ? "" : ", ");
         }
-        System.out.println(seen);
+        System.out.println(seen + "; of the lays no way " + noWay + ", given up " + givenUp);
         System.out.println(failed == 0 ? "all answers are as the model's" : failed + " runs differ");
         if (failed > 0) {
             System.exit(1);
@@ -47,6 +48,10 @@ public final class LongRuns extends Both {
                 asked[k]++;
                 well[k] += answer < 0 || answer == 0 && isTruth(name) ? 0 : 1;
             }
+        }
+        if (name.equals("lay")) {
+            noWay += answer == 0 ? 1 : 0;
+            givenUp += answer == -2 ? 1 : 0;
         }
         return answer;
     }
@@ -370,6 +375,7 @@ public final class LongRuns extends Both {
                     break;
                 case 3:
                     call("tired", someSinger(), someCall(), asOf());
+                    call("call", some(3, 3, 29), some(10, 14), below(4), someOpera(), 0);
                     break;
                 case 4:
                     anything();
@@ -550,14 +556,16 @@ public final class LongRuns extends Both {
     }
 
     private void nights() {
-        int operas = between(1, 3);
-        players(60);
+        int operas = one(2) ? 3 : between(1, 2);
+        for (int g = 0; g < 4; g++) {
+            call("players", g, one(9) ? 0 : 30, one(9) ? 0 : 30);
+        }
         for (int o = 0; o < operas; o++) {
             opera(between(1, 2), between(2, 4), below(4), below(2), between(1, 5), 1);
         }
         for (int s = 0; s < 5; s++) {
             call("singer", 3, 3, 5);
-            contract(s, "rest " + some(0, 12, 30) + ";week 7;voice 999;" + (one(2) ? feeText() : ""));
+            contract(s, "rest " + some(0, 0, 12, 30) + ";week 7;voice 999;" + (one(2) ? feeText() : ""));
         }
         for (int o = 0; o < operas; o++) {
             for (int kind = 0; kind < 3; kind++) {
@@ -574,16 +582,16 @@ public final class LongRuns extends Both {
             }
             int first = Math.min(29, Math.max(model.today, one(2) ? operas + below(3) : below(20)));
             int tries = lay(first, Math.min(29, first + between(1, 12)), between(17, 21), wishes);
-            if (one(5)) {
+            if (one(9)) {
                 anything();
             } else if (one(3)) {
                 wrongAndTold(1);
             } else if (tries > 0 && one(3)) {
                 refused();
-            } else if (tries > 0 && one(9)) {
+            } else if (tries > 0 && one(4)) {
                 told();
             }
-            boolean isKept = tries > 0 && !one(3) && call("keep") >= 0;
+            boolean isKept = tries > 0 && one(3) && call("keep") >= 0;
             call("laid", below(wishes.length + 1));
             if (isKept) {
                 int c = model.events.size() - 1;
@@ -593,10 +601,11 @@ public final class LongRuns extends Both {
                 call("tired", someSinger(), c, asOf());
                 call("count", some(3, 4));
             }
-            if (one(5)) {
-                call("ill", someSinger(), someDay(), someDay());
+            if (one(9)) {
+                int day = someDay();
+                call("ill", someSinger(), day, day);
             }
-            if (one(6)) {
+            if (one(9)) {
                 call("next", one(2) ? 1 : 0);
             }
             if (one(9)) {
@@ -604,14 +613,14 @@ public final class LongRuns extends Both {
                 int c = someCall();
                 call("cast", c, someRole(c), someSinger(), below(2));
             }
-            if (one(12)) {
-                contract(0, "week " + some(1, 2, 7) + ";rest 0;voice 999;");
+            if (one(9)) {
+                contract(0, "week " + some(2, 7, 7) + ";rest 0;voice 999;");
             }
             if (operas == 3 && one(9)) {
                 // no night of the last one wished can hold, so that many are tried
                 contract(2, "leave 0 to 29;");
-                int from = Math.min(22, Math.max(3, model.today));
-                lay(from, Math.min(29, from + between(7, 14)), 20, one(2) ? new int[] {0, 0, 0, 2} : new int[] {0, 0, 0, 0, 2});
+                int from = Math.min(15, Math.max(3, model.today));
+                lay(from, Math.min(29, from + between(7, 14)), 20, one(2) ? new int[] {0, 0, 2} : new int[] {0, 0, 0, 2});
                 contract(2, "rest 0;week 7;voice 999;");
             }
         }
@@ -714,7 +723,7 @@ public final class LongRuns extends Both {
         }
         while (goesOn()) {
             String text;
-            switch (below(7)) {
+            switch (below(10)) {
                 case 0:
                     text = feesAndLeaves();
                     break;
@@ -735,10 +744,20 @@ public final class LongRuns extends Both {
                 case 5:
                     text = limits() + someText("rest", "day", "week", "voice") + " " + some(-1, 0, 1, 7, 8, 24, 25, 72, 73, 999, 1000) + ";";
                     break;
+                case 6:
+                case 7:
+                    text = anyTokens();
+                    break;
+                case 8:
+                    cutText();
+                    text = "";
+                    break;
                 default:
                     text = feeText();
             }
-            contract(one(30) ? some(-1, 2) : below(2), text);
+            if (!text.isEmpty()) {
+                contract(one(30) ? some(-1, 2) : below(2), text);
+            }
             call("fault");
             call("fee", below(2), below(4), 0);
             call("pay", below(2), 0, 0);
@@ -746,6 +765,22 @@ public final class LongRuns extends Both {
                 anything();
             }
         }
+    }
+
+    private String anyTokens() {
+        String[] all = {"or", "and", "not", "(", ")", "late", "full", "night", "hours", "nth", "over", "<", "=", ">", "3", ";", "if"};
+        StringBuilder b = new StringBuilder("fee 1 if ");
+        for (int k = between(1, 9); k > 0; k--) {
+            b.append(someText(all)).append(one(2) ? " " : "\n");
+        }
+        return b.append(someText(";", " late;", "")).toString();
+    }
+
+    /** A text of which the end is cut off by end(), so that old bytes stand behind the tape. */
+    private void cutText() {
+        write(limits() + "fee 5 if " + someText("late;  \n  ", "nth=12345;", "full or late;", "   \n  "));
+        call("end", Math.max(0, model.tape.size() - between(1, 9)));
+        call("contract", below(2));
     }
 
     /** So many ONES, most of them within brackets, as a text of 300 bytes could not hold 40 words. */
@@ -776,7 +811,7 @@ public final class LongRuns extends Both {
     /** A text whose last token stands about byte 300. */
     private String near300() {
         String end = someText(";", "fee 7;", "rest 5;", "fee 12345", "late", "fee 1 if hours<123;");
-        int length = some(297, 298, 299, 300, 301, 302, 305);
+        int length = some(298, 299, 300, 301, 301, 301, 302, 305, 306, 307);
         return "fee 9;" + times(" ", length - 6 - end.length()) + end + times(someText(" ", ";", "\n"), some(0, 0, 1, 2, 3));
     }
 
